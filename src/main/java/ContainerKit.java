@@ -45,12 +45,12 @@ public final class ContainerKit {
     public int view(int of, int from, int to)
             throws IndexOutOfBoundsException, UnsupportedOperationException, IllegalArgumentException,
             IllegalStateException, RuntimeException {
-        Container whole = containerAt(of);
-        demandKind(whole.isList() || whole.isSorted());
-        demandFresh(whole);
-        demandArgument(from <= to && (whole.isSorted() || from >= 0 && to <= whole.count()));
+        Container source = containerAt(of);
+        demandKind(source.isList() || source.isSorted());
+        demandFresh(source);
+        demandArgument(from <= to && (source.isSorted() || from >= 0 && to <= source.count()));
         demandOneMoreContainer();
-        return keepContainer(whole.isSorted() ? rangeOf(whole, from, to) : partOf(whole, from, to));
+        return keepContainer(source.isSorted() ? rangeOf(source, from, to) : partOf(source, from, to));
     }
 
     public int kind(int container) throws IndexOutOfBoundsException {
@@ -550,12 +550,18 @@ public final class ContainerKit {
 
         abstract int count();
 
-        abstract boolean isStale();
+        /** Only a PART can be stale: a base and a RANGE are looked up anew in each call. */
+        boolean isStale() {
+            return false;
+        }
 
-        abstract boolean covers(int key);
+        boolean covers(int key) {
+            return true;
+        }
 
-        /** Told behind each change that was made through this container. */
-        abstract void follow(int more);
+        /** Told behind each change that was made through this container; only a PART must keep count. */
+        void follow(int more) {
+        }
 
         boolean isList() {
             return kind == ROW || kind == CHAIN || kind == PART;
@@ -671,28 +677,12 @@ public final class ContainerKit {
             super(kind, new Store(kind));
         }
 
-        @Override
         int start() {
             return 0;
         }
 
-        @Override
         int count() {
             return store.count;
-        }
-
-        @Override
-        boolean isStale() {
-            return false;
-        }
-
-        @Override
-        boolean covers(int key) {
-            return true;
-        }
-
-        @Override
-        void follow(int more) {
         }
     }
 
@@ -711,28 +701,19 @@ public final class ContainerKit {
             this.seenChanges = store.changes;
         }
 
-        @Override
         int start() {
             return start;
         }
 
-        @Override
         int count() {
             return count;
         }
 
         /** The parts above need no look: each has seen all the changes that this one has seen. */
-        @Override
         boolean isStale() {
             return seenChanges != store.changes;
         }
 
-        @Override
-        boolean covers(int key) {
-            return true;
-        }
-
-        @Override
         void follow(int more) {
             for (Part part = this; part != null; part = part.above) {
                 part.count += more;
@@ -752,28 +733,16 @@ public final class ContainerKit {
             this.high = high;
         }
 
-        @Override
         int start() {
             return store.placesBefore(low, false);
         }
 
-        @Override
         int count() {
             return Math.max(0, store.placesBefore(high, true) - start());
         }
 
-        @Override
-        boolean isStale() {
-            return false;
-        }
-
-        @Override
         boolean covers(int key) {
             return key >= low && key <= high;
-        }
-
-        @Override
-        void follow(int more) {
         }
     }
 
