@@ -1,10 +1,13 @@
+import java.util.ArrayList;
+import java.util.List;
 import java.util.regex.Matcher;
 import java.util.regex.Pattern;
 
 /**
  * Runs written calls on a new object each and compares the answers. A line is a call and its answer,
  * as in 'get(0, 3) 17', 'sort(0, 0) ok' or 'size(2) throws.RuntimeException'; '5 * ' before it calls
- * five times. Short names of exceptions: N, K, S, F and those of SHORT.
+ * five times. Short names of exceptions: N, K, S, F and those of SHORT. Behind each call that is to
+ * throw, it is also checked that nothing has changed.
  */
 final class Script {
     private static final Pattern LINE = Pattern.compile("(?:(\\d+) \\* )?(\\w+)\\(([^)]*)\\) (\\S+)");
@@ -24,23 +27,42 @@ final class Script {
 
     static void check(String title, String calls) {
         ContainerKit kit = new ContainerKit();
+        List<Call> before = new ArrayList<>();
         for (String line : calls.split("\n")) {
             if (!line.isBlank()) {
-                checkLine(kit, title, line.trim());
+                checkLine(kit, before, title, line.trim());
             }
         }
     }
 
-    private static void checkLine(ContainerKit kit, String title, String line) {
+    private static void checkLine(ContainerKit kit, List<Call> before, String title, String line) {
         Matcher parts = LINE.matcher(line);
         if (!parts.matches()) {
             throw new IllegalArgumentException("not a call with its answer: " + line);
         }
         int times = parts.group(1) == null ? 1 : Integer.parseInt(parts.group(1));
+        Call call = new Call(parts.group(2), numbers(parts.group(3)));
+        String due = whole(parts.group(4));
         for (int i = 0; i < times; i++) {
-            String got = Calls.answer(kit, parts.group(2), numbers(parts.group(3)));
-            compare(title + ": " + line, got, whole(parts.group(4)));
+            compare(title + ": " + line, call.answer(kit), due);
+            if (due.startsWith("throws")) {
+                Refusals.check(title, before, call);
+            }
+            before.add(call);
         }
+    }
+
+    /** What the last one of these calls answers; only that is of interest, and nothing is checked. */
+    static String lastAnswer(String calls) {
+        ContainerKit kit = new ContainerKit();
+        String answer = "";
+        for (String line : calls.split("\n")) {
+            Matcher parts = LINE.matcher(line.trim());
+            if (parts.matches()) {
+                answer = Calls.answer(kit, parts.group(2), numbers(parts.group(3)));
+            }
+        }
+        return answer;
     }
 
     static void compare(String what, String got, String due) {
