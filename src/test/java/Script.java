@@ -36,10 +36,7 @@ final class Script {
     }
 
     private static void checkLine(ContainerKit kit, List<Call> before, String title, String line) {
-        Matcher parts = LINE.matcher(line);
-        if (!parts.matches()) {
-            throw new IllegalArgumentException("not a call with its answer: " + line);
-        }
+        Matcher parts = parsed(line);
         int times = parts.group(1) == null ? 1 : Integer.parseInt(parts.group(1));
         Call call = new Call(parts.group(2), numbers(parts.group(3)));
         String due = whole(parts.group(4));
@@ -57,12 +54,18 @@ final class Script {
         ContainerKit kit = new ContainerKit();
         String answer = "";
         for (String line : calls.split("\n")) {
-            Matcher parts = LINE.matcher(line.trim());
-            if (parts.matches()) {
-                answer = Calls.answer(kit, parts.group(2), numbers(parts.group(3)));
-            }
+            Matcher parts = parsed(line.trim());
+            answer = Calls.answer(kit, parts.group(2), numbers(parts.group(3)));
         }
         return answer;
+    }
+
+    private static Matcher parsed(String line) {
+        Matcher parts = LINE.matcher(line);
+        if (!parts.matches()) {
+            throw new IllegalArgumentException("not a call with its answer: " + line);
+        }
+        return parts;
     }
 
     static void compare(String what, String got, String due) {

@@ -7,6 +7,7 @@ public final class TermsBoundaryTest {
         fullLists();
         fullMaps();
         whatIsAChange();
+        changesAddUp();
         whatIsNoChange();
         insertingMoves();
         roomGrows();
@@ -257,6 +258,29 @@ public final class TermsBoundaryTest {
 
     private static void changes(String what, String before, String change) {
         Script.check("CHANGES of a base are counted: " + what, before + change + "\nleft(0) S\n");
+    }
+
+    /** Two changes never make none, whichever they are. */
+    private static void changesAddUp() {
+        String list = Runs.list(0, 0, 1, 2, 3) + "view(0, 0, 3) 1\nopen(0, 0) ok\n";
+        String[] ofList = {"insert(0, 0, 5) ok\n", "remove(0, 1) ?\n", "sort(0, 1) ok\n", "sift(0, 3, 2) ?\n"};
+        String recent = Runs.map(0, 3, 1, 2, 3, 4, 5, 6) + "open(0, 0) ok\n";
+        String[] ofRecent = {"put(0, 9, 90) true\n", "drop(0, 4) ?\n", "value(0, 2) ?\n", "merge(0, 3, 1) ?\n"};
+        for (int one = 0; one < 4; one++) {
+            for (int two = 0; two < 4; two++) {
+                if (one != two) {
+                    String calls = list + ofList[one] + ofList[two];
+                    isStale(calls + "left(0) ?\n");
+                    isStale(calls + "size(1) ?\n");
+                    isStale(recent + ofRecent[one] + ofRecent[two] + "left(0) ?\n");
+                }
+            }
+        }
+    }
+
+    private static void isStale(String calls) {
+        Script.compare("if it has had another number, they are STALE: two changes\n" + calls,
+            Script.lastAnswer(calls), "throws.RuntimeException");
     }
 
     private static void whatIsNoChange() {
