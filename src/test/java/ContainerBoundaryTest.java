@@ -368,6 +368,22 @@ public final class ContainerBoundaryTest {
             same(0, 2) false
             same(1, 2) false
             """);
+        Script.check("promise 20: the same numbers: what stands just beside a PART does not count",
+            Runs.list(0, 0, 7, 1, 2, 8) + Runs.list(1, 1, 1, 2) + Runs.list(2, 0, 9, 1, 2, 6) + """
+            view(0, 1, 3) 3
+            view(2, 1, 3) 4
+            same(3, 1) true
+            same(1, 3) true
+            same(3, 4) true
+            view(0, 2, 2) 5
+            view(2, 3, 3) 6
+            create(1) 7
+            same(5, 6) true
+            same(5, 7) true
+            same(7, 6) true
+            """);
+        Script.check("promise 20: two full lists", Runs.list(0, 0, Runs.upTo(24)) + Runs.list(1, 1, Runs.upTo(24))
+            + "same(0, 1) true\nset(1, 23, 0) 23\nsame(0, 1) false\n");
     }
 
     private static void sameMaps() {
@@ -409,6 +425,17 @@ public final class ContainerBoundaryTest {
             drop(0, 1) 10
             same(0, 2) true
             """);
+        Script.check("promise 20: the same keys: what lies just beside a RANGE does not count",
+            Runs.map(0, 4, 0, 1, 2, 3) + Runs.map(1, 2, 2, 1) + Runs.map(2, 4, -1, 1, 2, 9) + """
+            view(0, 1, 2) 3
+            view(2, 0, 8) 4
+            same(3, 1) true
+            same(1, 3) true
+            same(3, 4) true
+            same(4, 3) true
+            """);
+        Script.check("promise 20: two full maps", Runs.map(0, 2, Runs.upTo(24)) + Runs.map(1, 4, Runs.upTo(24))
+            + "same(0, 1) true\nput(1, 23, 0) false\nsame(0, 1) false\nsame(1, 0) false\n");
     }
 
     private static void sameOthers() {
