@@ -67,21 +67,9 @@ public final class FaceTest {
         StringBuilder text = new StringBuilder(method.getReturnType().getSimpleName());
         text.append(' ').append(method.getName()).append('(').append(String.join(", ", types)).append(')');
         for (Class<?> thrown : method.getExceptionTypes()) {
-            text.append(' ').append(shortName(thrown.getSimpleName()));
+            text.append(' ').append(Script.shortName(thrown.getSimpleName()));
         }
         return text.toString();
-    }
-
-    private static String shortName(String exception) {
-        return switch (exception) {
-            case "IndexOutOfBoundsException" -> "N";
-            case "UnsupportedOperationException" -> "K";
-            case "RuntimeException" -> "S";
-            case "IllegalStateException" -> "F";
-            case "IllegalArgumentException" -> "ARG";
-            case "NoSuchElementException" -> "NONE";
-            default -> exception;
-        };
     }
 
     private static void nothingElseIsVisible() {

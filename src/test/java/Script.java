@@ -108,6 +108,16 @@ final class Script {
         return answer.equals("MIN") || answer.equals("MAX") ? String.valueOf(number(answer)) : answer;
     }
 
+    /** The short name of an exception that has one. */
+    static String shortName(String exception) {
+        for (int i = 0; i < SHORT.length; i += 2) {
+            if (exception.equals(SHORT[i + 1])) {
+                return SHORT[i];
+            }
+        }
+        return exception;
+    }
+
     static void end() {
         System.out.println(right + " answers as due, " + wrong + " not");
         if (wrong != 0 || right == 0) {
